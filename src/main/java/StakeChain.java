@@ -813,7 +813,7 @@ public final class StakeChain {
             returns = kept;
         }
 
-        /** Does a TRANSACTION of a BLOCK of this PROPOSER and HEIGHT; answers false, and does nothing, if it is not VALID. */
+        /** Does t in a BLOCK of this PROPOSER and HEIGHT; answers false, and does nothing, if it is not VALID. */
         boolean perform(Transaction t, int proposer, int height) {
             int place = t.kind == BOND || t.kind == UNBOND ? placeOf(t.account, t.other) : NONE;
             if (!allows(t, place, proposer, height)) {

@@ -9,6 +9,7 @@ public final class ClientTest {
         notSound();
         weakHalf();
         otherChain();
+        justThirds();
         Check.end();
     }
 
@@ -39,9 +40,9 @@ public final class ClientTest {
         int forty = tip - 1;
         Check.due("block 0", x.follow(0), -1);
         Check.due("no certificate", x.follow(2), -1);
-        certify(x, forty, 0, 9);
+        certify(x, forty, 1, 10);
         Check.due("ten have not 2 thirds", x.follow(forty), -1);
-        certify(x, forty, 10, 10);
+        certify(x, forty, 0, 0);
         Check.due("40 above", x.follow(forty), 1);
         Check.due("trusted", x.count(4), forty);
         Check.due("the same again", x.follow(forty), -1);
@@ -178,5 +179,18 @@ public final class ClientTest {
         Check.due("4 above", x.follow(one), 1);
         Check.due("8 is in another chain", x.follow(other), 1);
         Check.due("trusted", x.count(4), other);
+    }
+
+    private static void justThirds() {
+        StakeChain x = maker();
+        x.submit(2, 15, 15, 100);
+        int one = x.block(0, 0, 0, -1, -1);
+        certify(x, one, 0, 10);
+        Check.due("powers of 1500", x.follow(one), 1);
+        int three = x.block(0, grow(x, one, 1), -1, -1, 0b11);
+        certify(x, three, 0, 4);
+        Check.due("just a third of them", x.follow(three), -2);
+        certify(x, three, 5, 5);
+        Check.due("more than a third", x.follow(three), 1);
     }
 }

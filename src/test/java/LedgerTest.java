@@ -13,6 +13,9 @@ public final class LedgerTest {
         claims();
         roomForBonds();
         roomForReturns();
+        chainsApart();
+        lastCoin();
+        punishedBonds();
         Check.end();
     }
 
@@ -214,6 +217,8 @@ public final class LedgerTest {
         for (int n = 0; n < 16; n++) {
             Check.due("claim of " + n, x.of(bad, 17 + n), n < 2 || n == 15 ? 100 : 0);
         }
+        Check.due("a claim that is wrong of NODE 0 alone", x.of(x.block(0, 0, -1, -1, 65534), 3), 0);
+        Check.due("a claim that is wrong of NODE 15 alone", x.of(x.block(0, 0, -1, -1, 32767), 3), 0);
         Check.due("a claim that is right by bits", x.of(x.block(0, 0, -1, -1, 65535), 3), 1);
         int child = x.block(0, bad, -1, -1, -1);
         Check.due("child of one that is not sound", x.of(child, 3), 0);
@@ -264,5 +269,71 @@ public final class LedgerTest {
         Check.due("12 given back, 8 more in block 6", x.of(6, 4), 8);
         Check.due("28 in block 6", x.sum(6, 18), 28);
         Check.due("sum", x.sum(7, 20), 201600);
+    }
+
+    /** What one CHAIN does is nothing to another. */
+    private static void chainsApart() {
+        StakeChain x = maker();
+        x.submit(2, 1, 1, 40);
+        x.submit(2, 2, 2, 50);
+        x.submit(1, 3, 7, 9);
+        int a = x.block(0, 0, 0, -1, -1);
+        int b = x.block(0, 0, -1, -1, -1);
+        b = x.block(0, b, -1, -1, -1);
+        b = x.block(0, b, 1, 2, -1);
+        for (int height = 2; height <= 4; height++) {
+            a = x.block(0, a, -1, -1, -1);
+        }
+        Check.due("height 4", x.account(a, 1, 17), 40);
+        a = x.block(0, a, -1, -1, -1);
+        Check.due("due at 5", x.account(a, 1, 17), 0);
+        Check.due("nothing of the other chain", x.account(a, 2, 17), 0);
+        Check.due("bonds", x.sum(a, 19), 16);
+        for (int height = 4; height <= 6; height++) {
+            b = x.block(0, b, -1, -1, -1);
+        }
+        Check.due("height 6", x.account(b, 2, 17), 50);
+        Check.due("bonds", x.sum(b, 19), 17);
+        b = x.block(0, b, -1, -1, -1);
+        Check.due("due at 7", x.account(b, 2, 17), 0);
+        Check.due("sum", x.sum(b, 20), 201600);
+    }
+
+    private static void lastCoin() {
+        StakeChain x = maker();
+        x.submit(0, 3, 20, 998);
+        x.submit(2, 3, 3, 100);
+        x.submit(2, 3, 3, 1);
+        int b = x.block(0, 0, 0, -1, -1);
+        Check.due("one is left", x.account(b, 3, 0), 1);
+        int c = x.block(0, b, 1, -1, -1);
+        Check.due("enough for the fee", x.of(c, 3), 1);
+        Check.due("nothing is left", x.account(c, 3, 0), 0);
+        Check.due("no fee", sound(x, c, 2, -1), 0);
+        StakeChain y = maker();
+        y.submit(2, 15, 15, 100);
+        y.submit(2, 15, 15, 1);
+        Check.due("a bond that is gone", sound(y, 0, 0, 1), 0);
+    }
+
+    private static void punishedBonds() {
+        StakeChain x = maker();
+        x.fault(15);
+        int a = x.forge(0, 1, 1, 0, 1, -1);
+        int b = x.forge(0, 1, 1, 0, -1, -1);
+        int c = x.forge(15, 2, 1, 31, 0, -1);
+        int d = x.forge(15, 2, 1, 31, 1, -1);
+        x.submit(4, 20, a, b);
+        x.submit(2, 15, 15, 100);
+        x.submit(4, 20, c, d);
+        int first = x.block(0, 0, 0, -1, -1);
+        Check.due("NODE 0", x.sum(first, 17), 25);
+        Check.due("jailed", x.sum(first, 16), 1);
+        Check.due("its bond", x.account(first, 0, 1), 75);
+        int second = x.block(0, first, 1, 2, -1);
+        Check.due("without a bond nothing burns", x.sum(second, 17), 25);
+        Check.due("returns do not", x.account(second, 15, 17), 100);
+        Check.due("jailed all the same", x.sum(second, 16), 32769);
+        Check.due("sum", x.sum(second, 20), 201600);
     }
 }

@@ -53,6 +53,7 @@ public final class LimitsTest {
         Check.due("300", () -> x.block(0, 0, -1, -1, -1), Check.ISE);
         Check.due("wrong inputs come first", () -> x.block(0, 300, -1, -1, -1), Check.IAE);
         Check.due("height", x.of(299, 0), 299);
+        Check.due("no block 300", () -> x.of(300, 0), Check.IOOBE);
         Check.due("all is spread", x.spread(0, 100, Check.ALL), 31);
         Check.due("decided", x.told(2, 3), 1);
         Check.due("nothing is proposed", x.told(2, 11), 0);
@@ -92,6 +93,9 @@ public final class LimitsTest {
         stepsGoOn(x);
         Check.due("forge", () -> x.forge(FAULTY, 1, 1, 0, 0, -1), Check.ISE);
         Check.due("wrong inputs come first", () -> x.forge(FAULTY, 3, 1, 0, 0, -1), Check.IAE);
+        Check.due("no message 6000", () -> x.message(6000, 0), Check.IOOBE);
+        Check.due("no message 6000", () -> x.deliver(6000, 0), Check.IOOBE);
+        Check.due("the last one", x.message(5999, 5) < 32 ? 1 : 0, 1);
         int whole = x.told(14, 11) / 12;
         Check.due("start", x.start(14), whole);
         Check.due("nothing is sent", x.count(1), 6000);

@@ -7,8 +7,10 @@ public final class RulesTest {
         delivering();
         spreading();
         ruleA();
+        ownPrecommitDecides();
         leastRoundDecides();
         decidedOnlyByProposal();
+        knewFirst();
         ruleB();
         greatestRound();
         ruleC();
@@ -23,6 +25,9 @@ public final class RulesTest {
         expiring();
         expiringInStepTwo();
         proposerOfPowers();
+        proposerAtTheEdge();
+        justThirds();
+        noPowers();
         Check.end();
     }
 
@@ -110,9 +115,9 @@ public final class RulesTest {
     private static void ruleA() {
         StakeChain x = made();
         x.deliver(0, 15);
-        Check.votes(x, precommit(0, 1), 0, 9, 15);
+        Check.votes(x, precommit(0, 1), 1, 10, 15);
         Check.due("ten have not MOST", x.told(15, 3), 0);
-        Check.due("eleven have", Check.votes(x, precommit(0, 1), 10, 10, 15), 0);
+        Check.due("eleven have", Check.votes(x, precommit(0, 1), 0, 0, 15), 0);
         Check.due("last", x.told(15, 3), 1);
         Check.due("height", x.told(15, 0), 2);
         Check.due("the log is empty", x.told(15, 11), 0);
@@ -124,6 +129,18 @@ public final class RulesTest {
         Check.due("no proposal yet", y.told(15, 3), 0);
         Check.due("it comes last", y.deliver(0, 15), 0);
         Check.due("decided at once, without a vote", y.told(15, 3), 1);
+    }
+
+    /** What a NODE does may let it do more: here its own precommit is the eleventh. */
+    private static void ownPrecommitDecides() {
+        StakeChain x = made();
+        x.deliver(0, 15);
+        Check.votes(x, precommit(0, 1), 1, 10, 15);
+        Check.due("the precommit", Check.votes(x, prevote(0, 1), 1, 10, 15), 1);
+        Check.isMessage("the precommit", x, x.count(1) - 1, 2, 15, 1, 0, 1, -1);
+        Check.due("decided by it", x.told(15, 3), 1);
+        Check.due("the log is empty", x.told(15, 11), 0);
+        Check.stands("a new height", x, 15, 0, 0, -1, -1, -1, -1);
     }
 
     private static void leastRoundDecides() {
@@ -167,6 +184,26 @@ public final class RulesTest {
         Check.votes(z, precommit(0, 3), 0, 10, 15);
         propose(z, 1, 0, 3, -1);
         Check.due("not sound", z.told(15, 3), 0);
+    }
+
+    /** The PROPOSAL is the one that the NODE KNEW first, not the one that was sent first. */
+    private static void knewFirst() {
+        StakeChain x = made();
+        Check.due("sent last", propose(x, 1, 0, 2, -1), 1);
+        lastVote("for it", x, 0, 2);
+        Check.due("sent first", x.deliver(0, 15), 0);
+        Check.due("precommit", Check.votes(x, prevote(0, 2), 0, 9, 15), 1);
+        Check.stands("locked", x, 15, 0, 2, 2, 0, 2, 0);
+        Check.votes(x, precommit(0, 1), 0, 10, 15);
+        Check.due("not decided", x.told(15, 3), 0);
+        Check.votes(x, precommit(0, 2), 0, 10, 15);
+        Check.due("decided", x.told(15, 3), 2);
+
+        StakeChain y = made();
+        y.forge(1, 0, 1, 0, 2, -1);
+        Check.due("NODE 14 knows the other first", y.deliver(y.count(1) - 1, 14), 1);
+        Check.due("NODE 15 does not", y.deliver(0, 15), 1);
+        lastVote("for the other", y, 0, 1);
     }
 
     private static void ruleB() {
@@ -395,5 +432,76 @@ public final class RulesTest {
         Check.due("sum of powers", x.sum(2, 0), 1000);
         Check.runTo(x, 9, Check.ALL);
         Check.due("height 9: 1179 of 2400, NODE 1 has none: 1000, 1000, 1100, 1200", x.of(9, 2), 3);
+    }
+
+    private static void proposerAtTheEdge() {
+        StakeChain x = made();
+        Check.votes(x, precommit(22, NIL), 0, 5, 15);
+        Check.due("131 and 22 times 307 mod 1600: 485", x.told(15, 10), 4);
+        StakeChain y = new StakeChain();
+        Check.runTo(y, 3, Check.ALL);
+        Check.due("height 3, round 0: 393", y.of(3, 2), 3);
+        StakeChain z = made();
+        int one = z.block(0, 0, -1, -1, -1);
+        int two = z.block(0, one, -1, -1, -1);
+        for (int n = 0; n <= 10; n++) {
+            z.forge(n, 2, 1, 0, one, -1);
+            z.forge(n, 2, 2, 0, two, -1);
+        }
+        z.sync(15, one);
+        z.sync(15, two);
+        Check.votes(z, Check.vote(2, 3, 1, NIL), 0, 5, 15);
+        Check.due("height 3, round 1: just 700, so NODE 7 and not 6", z.told(15, 10), 7);
+    }
+
+    /** With T 1500, ten NODES have just 2 thirds and five just a third: that is not above. */
+    private static void justThirds() {
+        StakeChain x = made();
+        x.submit(2, 15, 15, 100);
+        int one = x.block(0, 0, 0, -1, -1);
+        int two = x.block(0, one, -1, -1, -1);
+        for (int n = 0; n <= 10; n++) {
+            x.forge(n, 2, 1, 0, one, -1);
+        }
+        x.sync(14, one);
+        x.sync(13, one);
+        Check.due("sum of powers", x.sum(one, 15), 0);
+        for (int n = 1; n <= 10; n++) {
+            x.forge(n, 2, 2, 0, two, -1);
+        }
+        Check.due("not MOST", x.sync(14, two), 2);
+        Check.votes(x, Check.vote(2, 2, 3, NIL), 1, 5, 13);
+        Check.stands("not SOME", x, 13, 0, 0);
+        Check.votes(x, Check.vote(2, 2, 3, NIL), 6, 6, 13);
+        Check.stands("SOME", x, 13, 3, 0);
+        x.forge(0, 2, 2, 0, two, -1);
+        Check.due("MOST", x.sync(14, two), 3);
+    }
+
+    /** Without POWERS there is no PROPOSER, and nobody has SOME or MOST. */
+    private static void noPowers() {
+        StakeChain x = new StakeChain();
+        for (int n = 0; n < 16; n++) {
+            x.submit(2, n, n, 100);
+        }
+        int from = 0;
+        for (int calls = 0; calls < 9; calls++) {
+            from += x.spread(from, 30, Check.ALL);
+        }
+        Check.due("twelve went in block 2", x.of(2, 4), 12);
+        Check.due("393 mod 400: NODE 15", x.of(3, 2), 15);
+        Check.due("four in block 3", x.of(3, 4), 4);
+        Check.due("all stop there", x.count(7), 3);
+        Check.due("no block", x.count(2), 4);
+        Check.due("no bonds", x.sum(3, 19), 0);
+        for (int n = 0; n < 16; n++) {
+            Check.due("last", x.told(n, 3), 3);
+            Check.due("no proposer", x.told(n, 10), -1);
+            Check.due("prevote for none", x.expire(n), 1);
+        }
+        x.spread(from, 30, Check.ALL);
+        Check.due("nobody has MOST", x.expire(0), 0);
+        Check.stands("step 1", x, 0, 0, 1, -1, -1, -1, -1);
+        Check.due("nothing to lead on", x.sync(0, 3), 4);
     }
 }

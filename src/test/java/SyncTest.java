@@ -38,7 +38,7 @@ public final class SyncTest {
         Check.faultAll(x, 0, 11);
         int b = x.block(0, 0, -1, -1, -1);
         int bad = x.block(0, 0, -1, -1, 1);
-        for (int n = 0; n < 10; n++) {
+        for (int n = 1; n < 10; n++) {
             x.forge(n, 2, 1, 3, b, -1);
             x.forge(n, 2, 1, 3, bad, -1);
         }
@@ -47,9 +47,11 @@ public final class SyncTest {
         x.forge(10, 2, 1, 4, b, -1);
         x.forge(10, 2, 2, 3, b, -1);
         x.forge(10, 2, 1, 3, -1, -1);
+        x.forge(11, 2, 1, 3, b, -1);
         Check.due("ten in a round", x.sync(15, b), 1);
         x.forge(10, 2, 1, 3, b, -1);
         x.forge(10, 2, 1, 3, bad, -1);
+        x.forge(11, 2, 1, 3, bad, -1);
         Check.due("eleven", x.sync(15, b), 2);
         Check.due("not sound", x.sync(14, bad), 1);
         Check.due("last", x.told(15, 3), b);
@@ -66,32 +68,35 @@ public final class SyncTest {
         Check.due("it does what can be done then: the next height is decided", x.sync(14, b), 3);
     }
 
+    /** NODES 4 to 14 FAULTY: so the first and the last NODE are among those that are looked at. */
     private static void splits() {
         StakeChain x = new StakeChain();
-        Check.faultAll(x, 0, 10);
-        int one = x.block(0, 0, -1, -1, -1);
-        int two = x.block(0, 0, -1, -1, -1);
-        int child = x.block(0, one, -1, -1, -1);
-        for (int n = 0; n < 11; n++) {
+        Check.faultAll(x, 4, 14);
+        int one = x.block(4, 0, -1, -1, -1);
+        int two = x.block(4, 0, -1, -1, -1);
+        int child = x.block(4, one, -1, -1, -1);
+        for (int n = 4; n < 15; n++) {
             x.forge(n, 2, 1, 0, one, -1);
             x.forge(n, 2, 1, 1, two, -1);
             x.forge(n, 2, 2, 0, child, -1);
         }
-        x.sync(11, one);
-        x.sync(12, two);
-        x.sync(13, one);
-        x.sync(13, child);
-        Check.due("11 and 13 against 12", x.count(5), 2);
-        Check.due("client at 0", x.count(6), 0);
+        x.sync(0, one);
+        x.sync(15, two);
+        Check.due("0 against 15", x.count(5), 1);
+        x.sync(0, child);
+        Check.due("0 against 15", x.count(5), 1);
         Check.due("greatest height", x.count(7), 2);
+        x.sync(3, one);
+        Check.due("0 and 3 against 15", x.count(5), 2);
+        Check.due("client at 0", x.count(6), 0);
         Check.due("follow", x.follow(two), 1);
-        Check.due("11 and 13 are off", x.count(6), 2);
-        x.fault(12);
+        Check.due("0 and 3 are off", x.count(6), 2);
+        x.fault(15);
         Check.due("no split but by one that is faulty", x.count(5), 0);
-        x.fault(13);
+        x.fault(0);
         Check.due("greatest height", x.count(7), 1);
-        Check.due("11 is off", x.count(6), 1);
-        Check.faultAll(x, 11, 15);
+        Check.due("3 is off", x.count(6), 1);
+        Check.faultAll(x, 0, 15);
         Check.due("nobody", x.count(7), 0);
         Check.due("nobody", x.count(6), 0);
         Check.due("all", x.count(3), 16);
