@@ -16,6 +16,7 @@ public final class LedgerTest {
         chainsApart();
         lastCoin();
         punishedBonds();
+        returnsInOrder();
         Check.end();
     }
 
@@ -335,5 +336,30 @@ public final class LedgerTest {
         Check.due("returns do not", x.account(second, 15, 17), 100);
         Check.due("jailed all the same", x.sum(second, 16), 32769);
         Check.due("sum", x.sum(second, 20), 201600);
+        x.submit(2, 3, 3, 100);
+        int other = x.block(0, 0, 3, 2, -1);
+        Check.due("each bond but once, though another is gone", x.sum(other, 17), 25);
+        Check.due("sum", x.sum(other, 20), 201600);
+    }
+
+    private static void returnsInOrder() {
+        StakeChain x = maker();
+        x.submit(2, 1, 1, 10);
+        x.submit(2, 2, 2, 20);
+        x.submit(2, 3, 3, 30);
+        int b = x.block(0, 0, 0, -1, -1);
+        b = x.block(0, b, -1, -1, -1);
+        b = x.block(0, b, 1, 2, -1);
+        b = x.block(0, b, -1, -1, -1);
+        b = x.block(0, b, -1, -1, -1);
+        Check.due("given back at 5", x.account(b, 1, 17), 0);
+        Check.due("two are left", x.sum(b, 18), 2);
+        b = x.block(0, b, -1, -1, -1);
+        Check.due("not due at 6", x.account(b, 2, 17), 20);
+        Check.due("not due at 6", x.account(b, 3, 17), 30);
+        b = x.block(0, b, -1, -1, -1);
+        Check.due("given back at 7", x.account(b, 2, 0), 1019);
+        Check.due("given back at 7", x.account(b, 3, 0), 1029);
+        Check.due("none is left", x.sum(b, 18), 0);
     }
 }

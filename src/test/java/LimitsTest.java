@@ -5,6 +5,7 @@ public final class LimitsTest {
 
     public static void main(String[] args) {
         heights();
+        alone();
         blocks();
         candidateWithAllBlocks();
         messages();
@@ -41,6 +42,34 @@ public final class LimitsTest {
         Check.due("no certificate", x.follow(next), -1);
         Check.due("no split", x.count(5), 0);
         Check.due("always 0", x.count(8), 0);
+        Check.due("sum", x.sum(120, 20), 201600);
+    }
+
+    /** One NODE has all the POWER, an amount of 1: it goes through all HEIGHTS in one call. */
+    private static void alone() {
+        StakeChain x = new StakeChain();
+        for (int n = 0; n < 16; n++) {
+            x.submit(2, n, n, n == 15 ? 99 : 100);
+        }
+        Check.runTo(x, 120, Check.ALL);
+        Check.due("height", x.told(15, 0), 121);
+        Check.due("power", x.sum(3, 15), 1);
+        Check.due("blocks", x.count(2), 121);
+        for (int b = 4; b <= 120; b++) {
+            Check.due("proposer", x.of(b, 2), 15);
+        }
+        int first = 0;
+        while (x.message(first, 2) < 4) {
+            first++;
+        }
+        for (int i = 0; i < 117; i++) {
+            Check.isMessage("proposal", x, first + 3 * i, 0, 15, 4 + i, 0, 4 + i, -1);
+            Check.isMessage("prevote", x, first + 3 * i + 1, 1, 15, 4 + i, 0, 4 + i, -1);
+            Check.isMessage("precommit", x, first + 3 * i + 2, 2, 15, 4 + i, 0, 4 + i, -1);
+        }
+        Check.due("the others have not heard of it", x.told(0, 0) < 5 ? 1 : 0, 1);
+        Check.due("block 3", x.follow(3), 1);
+        Check.due("the client follows by that NODE", x.follow(43), 1);
         Check.due("sum", x.sum(120, 20), 201600);
     }
 

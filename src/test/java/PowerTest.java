@@ -11,6 +11,7 @@ public final class PowerTest {
         proposalLost();
         proposalKept();
         precommitKept();
+        lockLost();
         lockOutlastsPower();
         candidateWithoutRecord();
         failsAgain();
@@ -123,6 +124,21 @@ public final class PowerTest {
         Check.stands("(e) was not done", x, 15, 0, 2, 1, 0, -1, -1);
         Check.due("nothing is sent again", Check.votes(x, Check.vote(1, 1, 0, 1), 9, 9, 15), 0);
         Check.stands("(e) is done again", x, 15, 0, 2, 1, 0, 1, 0);
+    }
+
+    /** A LOCK whose RECORD is not whole was never there: its precommit was not sent. */
+    private static void lockLost() {
+        StakeChain x = new StakeChain();
+        Check.faultAll(x, 0, 10);
+        x.deliver(0, 15);
+        x.power(15, 11);
+        Check.due("nothing is sent", Check.votes(x, Check.vote(1, 1, 0, 1), 0, 9, 15), 0);
+        Check.due("one record", x.start(15), 1);
+        Check.stands("no lock", x, 15, 0, 1, -1, -1, -1, -1);
+        x.deliver(0, 15);
+        Check.due("it precommits when it hears again", Check.votes(x, Check.vote(1, 1, 0, 1), 0, 9, 15), 1);
+        Check.stands("locked", x, 15, 0, 2, 1, 0, 1, 0);
+        Check.due("log", x.told(15, 11), 24);
     }
 
     private static void lockOutlastsPower() {
