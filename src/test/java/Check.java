@@ -9,14 +9,20 @@ final class Check {
 
     private static int wrong = 0;
     private static int asked = 0;
+    private static String sentence = "";
 
     private Check() { }
+
+    /** The sentence of the document that the next answers are due by. */
+    static void sentence(String words) {
+        sentence = "\"" + words + "\": ";
+    }
 
     static void due(String what, int got, int want) {
         asked++;
         if (got != want) {
             wrong++;
-            System.out.println(what + " answered " + got + ", due is " + want);
+            System.out.println(sentence + what + " answered " + got + ", due is " + want);
         }
     }
 
@@ -50,21 +56,21 @@ final class Check {
     }
 
     /** Spreads all that there is and comes of it to the NODES, till the CHAIN of one of them has this HEIGHT or 60 calls are made. */
-    static void runTo(StakeChain x, int height, int nodes) {
+    static void runTo(Chain x, int height, int nodes) {
         int from = 0;
         for (int calls = 0; calls < 60 && x.count(7) < height; calls++) {
             from += x.spread(from, 30, nodes);
         }
     }
 
-    static void faultAll(StakeChain x, int from, int to) {
+    static void faultAll(Chain x, int from, int to) {
         for (int n = from; n <= to; n++) {
             x.fault(n);
         }
     }
 
     /** FAULTY NODES from .. to send a vote each, which comes to one NODE: how many MESSAGES that NODE sent by that. */
-    static int votes(StakeChain x, int[] what, int from, int to, int node) {
+    static int votes(Chain x, int[] what, int from, int to, int node) {
         int sent = 0;
         for (int n = from; n <= to; n++) {
             sent += x.deliver(x.forge(n, what[0], what[1], what[2], what[3], -1), node);
@@ -78,14 +84,14 @@ final class Check {
     }
 
     /** ROUND, STEP, LOCK and CANDIDATE of a NODE. */
-    static void stands(String what, StakeChain x, int n, int... want) {
+    static void stands(String what, Chain x, int n, int... want) {
         int[] questions = {1, 2, 4, 5, 6, 7};
         for (int i = 0; i < want.length; i++) {
             due(what + ": told(" + n + ", " + questions[i] + ")", x.told(n, questions[i]), want[i]);
         }
     }
 
-    static void isMessage(String what, StakeChain x, int m, int... want) {
+    static void isMessage(String what, Chain x, int m, int... want) {
         for (int i = 0; i < want.length; i++) {
             due(what + ": message(" + m + ", " + i + ")", x.message(m, i), want[i]);
         }

@@ -13,14 +13,14 @@ public final class ClientTest {
         Check.end();
     }
 
-    private static StakeChain maker() {
-        StakeChain x = new StakeChain();
+    private static Chain maker() {
+        Chain x = new Chain();
         Check.faultAll(x, 0, 10);
         return x;
     }
 
     /** Empty BLOCKS on top of b: the last of them. */
-    private static int grow(StakeChain x, int b, int many) {
+    private static int grow(Chain x, int b, int many) {
         int tip = b;
         for (int i = 0; i < many; i++) {
             tip = x.block(0, tip, -1, -1, -1);
@@ -28,14 +28,14 @@ public final class ClientTest {
         return tip;
     }
 
-    private static void certify(StakeChain x, int b, int from, int to) {
+    private static void certify(Chain x, int b, int from, int to) {
         for (int n = from; n <= to; n++) {
             x.forge(n, 2, x.of(b, 0), 0, b, -1);
         }
     }
 
     private static void steps() {
-        StakeChain x = maker();
+        Chain x = maker();
         int tip = grow(x, 0, 41);
         int forty = tip - 1;
         Check.due("block 0", x.follow(0), -1);
@@ -54,7 +54,7 @@ public final class ClientTest {
 
     /** HEIGHT 100: 100, 50, 25, 50, 100, 75, 100. */
     private static void halves() {
-        StakeChain x = maker();
+        Chain x = maker();
         grow(x, 0, 100);
         int base = 1;
         for (int h : new int[] {100, 50, 25, 75}) {
@@ -62,19 +62,19 @@ public final class ClientTest {
         }
         Check.due("seven looks", x.follow(base + 100), 7);
         Check.due("trusted", x.count(4), base + 100);
-        StakeChain y = maker();
+        Chain y = maker();
         grow(y, 0, 100);
         for (int h : new int[] {100, 50, 25}) {
             certify(y, base + h, 0, 10);
         }
         Check.due("75 has no certificate: 100, 50, 25, 50, 100, 75", y.follow(base + 100), -6);
         Check.due("what it trusts by then stays", y.count(4), base + 50);
-        StakeChain z = maker();
+        Chain z = maker();
         grow(z, 0, 100);
         certify(z, base + 100, 0, 10);
         Check.due("no way", z.follow(base + 100), -2);
         Check.due("nothing", z.count(4), 0);
-        StakeChain u = maker();
+        Chain u = maker();
         grow(u, 0, 41);
         certify(u, base + 41, 0, 10);
         certify(u, base + 20, 0, 10);
@@ -83,14 +83,14 @@ public final class ClientTest {
 
     /** A BLOCK whose CLAIM is of few NODES needs few precommits, but a third of the POWERS that are trusted. */
     private static void claimOfTheBlock() {
-        StakeChain x = maker();
+        Chain x = maker();
         int one = grow(x, 0, 1);
         int two = x.block(0, one, -1, -1, 0b111111);
         certify(x, two, 0, 4);
         Check.due("five of six, but not a third: block 1 has no certificate", x.follow(two), -2);
         certify(x, two, 6, 10);
         Check.due("a third with others: 10 of 16", x.follow(two), 1);
-        StakeChain y = maker();
+        Chain y = maker();
         one = grow(y, 0, 1);
         two = y.block(0, one, -1, -1, 0b111111);
         certify(y, two, 0, 3);
@@ -102,7 +102,7 @@ public final class ClientTest {
     }
 
     private static void sameNodes() {
-        StakeChain x = maker();
+        Chain x = maker();
         int two = x.block(0, grow(x, 0, 1), -1, -1, 0b11);
         x.forge(0, 2, 2, 5, two, -1);
         x.forge(1, 2, 2, 5, two, -1);
@@ -123,7 +123,7 @@ public final class ClientTest {
     }
 
     private static void neighbours() {
-        StakeChain x = maker();
+        Chain x = maker();
         int wrongClaim = x.block(0, 0, -1, -1, 0b11111111111);
         certify(x, wrongClaim, 0, 10);
         Check.due("claim that is not the powers", x.follow(wrongClaim), -1);
@@ -138,7 +138,7 @@ public final class ClientTest {
     }
 
     private static void notSound() {
-        StakeChain x = maker();
+        Chain x = maker();
         int bad = x.block(0, grow(x, 0, 1), -1, -1, 0b11111111111);
         int child = grow(x, bad, 1);
         int far = grow(x, child, 5);
@@ -153,7 +153,7 @@ public final class ClientTest {
 
     /** Powers change so much that the way must be made in halves within 40 HEIGHTS. */
     private static void weakHalf() {
-        StakeChain x = maker();
+        Chain x = maker();
         int b = 1;
         for (int i = 0; i < 14; i += 2) {
             x.submit(1, 100 + i, 9, 999);
@@ -171,7 +171,7 @@ public final class ClientTest {
     }
 
     private static void otherChain() {
-        StakeChain x = maker();
+        Chain x = maker();
         int one = grow(x, 0, 4);
         int other = grow(x, 1, 7);
         certify(x, one, 0, 10);
@@ -182,7 +182,7 @@ public final class ClientTest {
     }
 
     private static void justThirds() {
-        StakeChain x = maker();
+        Chain x = maker();
         x.submit(2, 15, 15, 100);
         int one = x.block(0, 0, 0, -1, -1);
         certify(x, one, 0, 10);

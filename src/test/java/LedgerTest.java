@@ -21,18 +21,18 @@ public final class LedgerTest {
     }
 
     /** An object with NODE 0 FAULTY, which makes the BLOCKS (the first of them is number 2). */
-    private static StakeChain maker() {
-        StakeChain x = new StakeChain();
+    private static Chain maker() {
+        Chain x = new Chain();
         x.fault(0);
         return x;
     }
 
-    private static int sound(StakeChain x, int parent, int one, int two) {
+    private static int sound(Chain x, int parent, int one, int two) {
         return x.of(x.block(0, parent, one, two, -1), 3);
     }
 
     private static void numbers() {
-        StakeChain x = new StakeChain();
+        Chain x = new Chain();
         Check.due("first submit", x.submit(0, 199, 199, 1000000), 0);
         Check.due("second submit", x.submit(1, 199, 15, 1), 1);
         Check.due("third submit", x.submit(2, 0, 0, 1000000), 2);
@@ -42,7 +42,7 @@ public final class LedgerTest {
     }
 
     private static void payments() {
-        StakeChain x = maker();
+        Chain x = maker();
         x.submit(0, 20, 21, 999);
         x.submit(0, 22, 21, 1000);
         x.submit(0, 20, 23, 1);
@@ -61,7 +61,7 @@ public final class LedgerTest {
 
     /** The fee comes to the PROPOSER before the amount is looked at. */
     private static void ownFee() {
-        StakeChain x = maker();
+        Chain x = maker();
         x.submit(0, 0, 5, 1000);
         x.submit(0, 0, 5, 1);
         x.submit(1, 0, 7, 1000);
@@ -73,7 +73,7 @@ public final class LedgerTest {
     }
 
     private static void bonds() {
-        StakeChain x = maker();
+        Chain x = maker();
         x.submit(1, 3, 2, 500);
         x.submit(1, 3, 2, 499);
         x.submit(1, 3, 2, 498);
@@ -91,7 +91,7 @@ public final class LedgerTest {
     }
 
     private static void unbonds() {
-        StakeChain x = maker();
+        Chain x = maker();
         x.submit(2, 1, 1, 40);
         x.submit(2, 1, 1, 61);
         x.submit(2, 1, 1, 60);
@@ -120,7 +120,7 @@ public final class LedgerTest {
     }
 
     private static void proofs() {
-        StakeChain x = maker();
+        Chain x = maker();
         x.fault(2);
         int a = x.forge(2, 1, 1, 0, 1, -1);
         int b = x.forge(2, 1, 1, 0, -1, -1);
@@ -152,7 +152,7 @@ public final class LedgerTest {
     }
 
     private static void proofsThatAreNone() {
-        StakeChain x = maker();
+        Chain x = maker();
         x.fault(2);
         x.fault(3);
         int base = x.forge(2, 1, 1, 0, 1, -1);
@@ -169,7 +169,7 @@ public final class LedgerTest {
 
     /** A proposed BLOCK has the first 12 that are VALID in order. */
     private static void proposed() {
-        StakeChain x = new StakeChain();
+        Chain x = new Chain();
         x.submit(0, 50, 51, 999);
         x.submit(0, 50, 51, 1);
         x.submit(2, 51, 3, 5);
@@ -193,7 +193,7 @@ public final class LedgerTest {
     }
 
     private static void twice() {
-        StakeChain x = maker();
+        Chain x = maker();
         x.submit(0, 20, 21, 1);
         x.submit(0, 20, 21, 1);
         Check.due("twice in one block", sound(x, 0, 0, 0), 0);
@@ -212,7 +212,7 @@ public final class LedgerTest {
     }
 
     private static void claims() {
-        StakeChain x = maker();
+        Chain x = maker();
         int bad = x.block(0, 0, -1, -1, 0b1000000000000011);
         Check.due("a claim that is wrong", x.of(bad, 3), 0);
         for (int n = 0; n < 16; n++) {
@@ -239,7 +239,7 @@ public final class LedgerTest {
     }
 
     private static void roomForBonds() {
-        StakeChain x = maker();
+        Chain x = maker();
         int b = 0;
         for (int i = 0; i < 80; i += 2) {
             x.submit(1, 20 + i, 4, 1);
@@ -257,7 +257,7 @@ public final class LedgerTest {
     }
 
     private static void roomForReturns() {
-        StakeChain x = new StakeChain();
+        Chain x = new Chain();
         for (int i = 0; i < 40; i++) {
             x.submit(2, i % 8, i % 8, 1);
         }
@@ -274,7 +274,7 @@ public final class LedgerTest {
 
     /** What one CHAIN does is nothing to another. */
     private static void chainsApart() {
-        StakeChain x = maker();
+        Chain x = maker();
         x.submit(2, 1, 1, 40);
         x.submit(2, 2, 2, 50);
         x.submit(1, 3, 7, 9);
@@ -301,7 +301,7 @@ public final class LedgerTest {
     }
 
     private static void lastCoin() {
-        StakeChain x = maker();
+        Chain x = maker();
         x.submit(0, 3, 20, 998);
         x.submit(2, 3, 3, 100);
         x.submit(2, 3, 3, 1);
@@ -311,14 +311,14 @@ public final class LedgerTest {
         Check.due("enough for the fee", x.of(c, 3), 1);
         Check.due("nothing is left", x.account(c, 3, 0), 0);
         Check.due("no fee", sound(x, c, 2, -1), 0);
-        StakeChain y = maker();
+        Chain y = maker();
         y.submit(2, 15, 15, 100);
         y.submit(2, 15, 15, 1);
         Check.due("a bond that is gone", sound(y, 0, 0, 1), 0);
     }
 
     private static void punishedBonds() {
-        StakeChain x = maker();
+        Chain x = maker();
         x.fault(15);
         int a = x.forge(0, 1, 1, 0, 1, -1);
         int b = x.forge(0, 1, 1, 0, -1, -1);
@@ -343,7 +343,7 @@ public final class LedgerTest {
     }
 
     private static void returnsInOrder() {
-        StakeChain x = maker();
+        Chain x = maker();
         x.submit(2, 1, 1, 10);
         x.submit(2, 2, 2, 20);
         x.submit(2, 3, 3, 30);

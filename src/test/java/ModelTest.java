@@ -18,6 +18,10 @@ public final class ModelTest {
         {6, 6, 3, 8, 2, 40, 14, 6, 0, 0, 4, 1, 2, 1, 2, 12, 2},
     };
 
+    private static final int PROMISED = 512;
+    /** Calls of all sorts; the last ones only ask. */
+    private static final int DEEDS = 360;
+
     private final Random random;
     private final StakeChain real = new StakeChain();
     private final PlainChain plain = new PlainChain();
@@ -166,32 +170,18 @@ public final class ModelTest {
         }
     }
 
-    private void compareAll() {
-        for (int n = 0; n < 16; n++) {
-            for (int what = 0; what < 12; what++) {
-                both("told", n, what);
+    /** Questions about all that there is, as many as are left of the calls that are promised. */
+    private void askTheRest() {
+        while (run.size() < PROMISED && !wrong) {
+            int b = random.nextInt(plain.blocks.size());
+            switch (random.nextInt(6)) {
+                case 0: both("told", random.nextInt(16), random.nextInt(12)); break;
+                case 1: both("of", b, random.nextInt(33)); break;
+                case 2: both("sum", b, random.nextInt(21)); break;
+                case 3: both("account", b, random.nextInt(20), random.nextInt(18)); break;
+                case 4: both("message", random.nextInt(plain.msgs.size()), random.nextInt(6)); break;
+                default: both("count", random.nextInt(9)); break;
             }
-        }
-        for (int b = 0; b < plain.blocks.size(); b++) {
-            for (int what = 0; what <= 32; what++) {
-                both("of", b, what);
-            }
-            for (int what = 0; what <= 20; what++) {
-                both("sum", b, what);
-            }
-            for (int a = 0; a < 20; a++) {
-                for (int what = 0; what <= 17; what++) {
-                    both("account", b, a, what);
-                }
-            }
-        }
-        for (int m = 0; m < plain.msgs.size(); m++) {
-            for (int what = 0; what <= 5; what++) {
-                both("message", m, what);
-            }
-        }
-        for (int what = 0; what <= 8; what++) {
-            both("count", what);
         }
     }
 
@@ -202,14 +192,12 @@ public final class ModelTest {
         int[] sums = new int[9];
         for (int seed = first; seed < first + runs && wrongRuns == 0; seed++) {
             ModelTest t = new ModelTest(seed);
-            for (int i = 0; i < 250 && !t.wrong; i++) {
+            while (t.run.size() < DEEDS && !t.wrong) {
                 t.oneCall();
             }
-            if (!t.wrong) {
-                t.compareAll();
-            }
+            t.askTheRest();
             for (int what = 0; what <= 8; what++) {
-                sums[what] += t.real.count(what);
+                sums[what] += t.plain.count(what);
             }
             if (t.wrong) {
                 System.out.println("seed " + seed);

@@ -21,7 +21,7 @@ public final class PowerTest {
     }
 
     private static void firstVote(int bytes) {
-        StakeChain x = new StakeChain();
+        Chain x = new Chain();
         x.power(5, bytes);
         Check.due("nothing is sent", x.deliver(0, 5), 0);
         int[] told = {1, -1, -1, 0, -1, -1, -1, -1, 0, 2, -1, bytes};
@@ -42,7 +42,7 @@ public final class PowerTest {
     }
 
     private static void laterVote(int bytes) {
-        StakeChain x = new StakeChain();
+        Chain x = new Chain();
         Check.faultAll(x, 0, 10);
         x.deliver(0, 15);
         x.power(15, bytes);
@@ -58,7 +58,7 @@ public final class PowerTest {
     }
 
     private static void noFailure() {
-        StakeChain x = new StakeChain();
+        Chain x = new Chain();
         x.power(5, 3);
         x.power(5, 13);
         Check.due("forgotten", x.deliver(0, 5), 1);
@@ -71,8 +71,8 @@ public final class PowerTest {
     }
 
     /** NODE 2 proposes at HEIGHT 2: power fails there, behind an empty LOG. */
-    private static StakeChain failAtProposal(int bytes) {
-        StakeChain x = new StakeChain();
+    private static Chain failAtProposal(int bytes) {
+        Chain x = new Chain();
         x.spread(0, 17, Check.ALL);
         x.spread(17, 10, Check.ALL);
         x.power(2, bytes);
@@ -86,7 +86,7 @@ public final class PowerTest {
     }
 
     private static void proposalLost() {
-        StakeChain x = failAtProposal(11);
+        Chain x = failAtProposal(11);
         int before = x.count(1);
         Check.due("no records", x.start(2), 0);
         Check.due("a new block is made", x.count(2), 4);
@@ -97,7 +97,7 @@ public final class PowerTest {
     }
 
     private static void proposalKept() {
-        StakeChain x = failAtProposal(12);
+        Chain x = failAtProposal(12);
         int before = x.count(1);
         Check.due("one record", x.start(2), 1);
         Check.due("no new block", x.count(2), 3);
@@ -110,7 +110,7 @@ public final class PowerTest {
 
     /** The RECORD of a precommit has the new LOCK, STEP 2, and the CANDIDATE that was before it. */
     private static void precommitKept() {
-        StakeChain x = new StakeChain();
+        Chain x = new Chain();
         Check.faultAll(x, 0, 10);
         x.deliver(0, 15);
         x.power(15, 12);
@@ -128,7 +128,7 @@ public final class PowerTest {
 
     /** A LOCK whose RECORD is not whole was never there: its precommit was not sent. */
     private static void lockLost() {
-        StakeChain x = new StakeChain();
+        Chain x = new Chain();
         Check.faultAll(x, 0, 10);
         x.deliver(0, 15);
         x.power(15, 11);
@@ -142,7 +142,7 @@ public final class PowerTest {
     }
 
     private static void lockOutlastsPower() {
-        StakeChain x = new StakeChain();
+        Chain x = new Chain();
         Check.faultAll(x, 0, 10);
         x.block(0, 0, -1, -1, -1);
         x.deliver(0, 15);
@@ -161,7 +161,7 @@ public final class PowerTest {
 
     /** A CANDIDATE of STEP 2 is in no RECORD till the next one is written. */
     private static void candidateWithoutRecord() {
-        StakeChain x = new StakeChain();
+        Chain x = new Chain();
         Check.faultAll(x, 0, 10);
         x.deliver(0, 15);
         Check.votes(x, Check.vote(1, 1, 0, NIL), 0, 10, 15);
@@ -172,7 +172,7 @@ public final class PowerTest {
         x.expire(15);
         Check.due("three records", x.start(15), 3);
         Check.stands("the record of round 1 has it", x, 15, 1, 1, -1, -1, 1, 0);
-        StakeChain y = new StakeChain();
+        Chain y = new Chain();
         Check.faultAll(y, 0, 10);
         y.deliver(0, 15);
         Check.votes(y, Check.vote(1, 1, 0, NIL), 0, 10, 15);
@@ -185,7 +185,7 @@ public final class PowerTest {
     }
 
     private static void failsAgain() {
-        StakeChain x = failAtProposal(0);
+        Chain x = failAtProposal(0);
         x.power(2, 9);
         Check.due("no records", x.start(2), 0);
         Check.due("down again", x.told(2, 9), 2);
@@ -194,7 +194,7 @@ public final class PowerTest {
         Check.due("no records", x.start(2), 0);
         Check.due("up", x.told(2, 9), 0);
         Check.due("proposes", x.told(2, 11), 24);
-        StakeChain y = failAtProposal(12);
+        Chain y = failAtProposal(12);
         y.power(2, 1);
         int before = y.count(1);
         Check.due("one record", y.start(2), 1);
@@ -203,7 +203,7 @@ public final class PowerTest {
     }
 
     private static void newLastEmptiesTheLog() {
-        StakeChain x = new StakeChain();
+        Chain x = new Chain();
         Check.faultAll(x, 0, 10);
         x.deliver(0, 15);
         Check.due("log", x.told(15, 11), 12);
@@ -220,7 +220,7 @@ public final class PowerTest {
     }
 
     private static void nothingToBothSides() {
-        StakeChain x = new StakeChain();
+        Chain x = new Chain();
         x.power(5, 0);
         x.deliver(0, 5);
         Check.due("sync", x.sync(5, 1), 1);

@@ -32,15 +32,15 @@ public final class RulesTest {
     }
 
     /** BLOCK 1 by NODE 1 (MESSAGES 0, 1), BLOCK 2 like it by NODE 0, BLOCK 3 that is not SOUND. */
-    private static StakeChain made() {
-        StakeChain x = new StakeChain();
+    private static Chain made() {
+        Chain x = new Chain();
         Check.faultAll(x, 0, 10);
         x.block(0, 0, -1, -1, -1);
         x.block(0, 0, -1, -1, 1);
         return x;
     }
 
-    private static int propose(StakeChain x, int node, int round, int block, int before) {
+    private static int propose(Chain x, int node, int round, int block, int before) {
         return x.deliver(x.forge(node, 0, 1, round, block, before), 15);
     }
 
@@ -53,7 +53,7 @@ public final class RulesTest {
     }
 
     private static void faults() {
-        StakeChain x = new StakeChain();
+        Chain x = new Chain();
         Check.due("fault(1)", x.fault(1), 1);
         Check.due("fault(1) again", x.fault(1), 1);
         Check.due("fault(15)", x.fault(15), 2);
@@ -81,7 +81,7 @@ public final class RulesTest {
     }
 
     private static void delivering() {
-        StakeChain x = new StakeChain();
+        Chain x = new Chain();
         Check.due("the proposal", x.deliver(0, 5), 1);
         Check.isMessage("its prevote", x, 2, 1, 5, 1, 0, 1, -1);
         Check.due("the same again", x.deliver(0, 5), 0);
@@ -96,7 +96,7 @@ public final class RulesTest {
     }
 
     private static void spreading() {
-        StakeChain x = new StakeChain();
+        Chain x = new Chain();
         Check.due("to nobody", x.spread(0, 100, 0), 2);
         Check.due("to nobody", x.spread(0, 100, 65536), 2);
         Check.due("nothing was sent", x.count(1), 2);
@@ -113,7 +113,7 @@ public final class RulesTest {
     }
 
     private static void ruleA() {
-        StakeChain x = made();
+        Chain x = made();
         x.deliver(0, 15);
         Check.votes(x, precommit(0, 1), 1, 10, 15);
         Check.due("ten have not MOST", x.told(15, 3), 0);
@@ -124,7 +124,7 @@ public final class RulesTest {
         Check.stands("a new height", x, 15, 0, 0, -1, -1, -1, -1);
         Check.due("count(7)", x.count(7), 1);
 
-        StakeChain y = made();
+        Chain y = made();
         Check.votes(y, precommit(0, 1), 0, 10, 15);
         Check.due("no proposal yet", y.told(15, 3), 0);
         Check.due("it comes last", y.deliver(0, 15), 0);
@@ -133,7 +133,7 @@ public final class RulesTest {
 
     /** What a NODE does may let it do more: here its own precommit is the eleventh. */
     private static void ownPrecommitDecides() {
-        StakeChain x = made();
+        Chain x = made();
         x.deliver(0, 15);
         Check.votes(x, precommit(0, 1), 1, 10, 15);
         Check.due("the precommit", Check.votes(x, prevote(0, 1), 1, 10, 15), 1);
@@ -144,7 +144,7 @@ public final class RulesTest {
     }
 
     private static void leastRoundDecides() {
-        StakeChain x = made();
+        Chain x = made();
         Check.votes(x, precommit(1, 2), 0, 10, 15);
         Check.votes(x, precommit(0, 1), 0, 10, 15);
         x.forge(4, 0, 1, 1, 2, -1);
@@ -152,7 +152,7 @@ public final class RulesTest {
         x.deliver(0, 15);
         Check.due("round 0", x.told(15, 3), 1);
 
-        StakeChain y = made();
+        Chain y = made();
         Check.votes(y, precommit(1, 2), 0, 10, 15);
         Check.due("a later round decides too", propose(y, 4, 1, 2, -1), 0);
         Check.due("round 1", y.told(15, 3), 2);
@@ -164,14 +164,14 @@ public final class RulesTest {
     }
 
     private static void decidedOnlyByProposal() {
-        StakeChain x = made();
+        Chain x = made();
         Check.votes(x, precommit(0, 2), 0, 10, 15);
         x.deliver(0, 15);
         Check.due("precommits for another than the proposal", x.told(15, 3), 0);
         propose(x, 1, 0, 2, -1);
         Check.due("only the first proposal counts", x.told(15, 3), 0);
 
-        StakeChain y = made();
+        Chain y = made();
         Check.votes(y, precommit(0, 2), 0, 10, 15);
         propose(y, 2, 0, 2, -1);
         Check.due("not by the proposer", y.told(15, 3), 0);
@@ -180,7 +180,7 @@ public final class RulesTest {
         propose(y, 1, 0, 2, 9);
         Check.due("any round before", y.told(15, 3), 2);
 
-        StakeChain z = made();
+        Chain z = made();
         Check.votes(z, precommit(0, 3), 0, 10, 15);
         propose(z, 1, 0, 3, -1);
         Check.due("not sound", z.told(15, 3), 0);
@@ -188,7 +188,7 @@ public final class RulesTest {
 
     /** The PROPOSAL is the one that the NODE KNEW first, not the one that was sent first. */
     private static void knewFirst() {
-        StakeChain x = made();
+        Chain x = made();
         Check.due("sent last", propose(x, 1, 0, 2, -1), 1);
         lastVote("for it", x, 0, 2);
         Check.due("sent first", x.deliver(0, 15), 0);
@@ -199,7 +199,7 @@ public final class RulesTest {
         Check.votes(x, precommit(0, 2), 0, 10, 15);
         Check.due("decided", x.told(15, 3), 2);
 
-        StakeChain y = made();
+        Chain y = made();
         y.forge(1, 0, 1, 0, 2, -1);
         Check.due("NODE 14 knows the other first", y.deliver(y.count(1) - 1, 14), 1);
         Check.due("NODE 15 does not", y.deliver(0, 15), 1);
@@ -207,7 +207,7 @@ public final class RulesTest {
     }
 
     private static void ruleB() {
-        StakeChain x = made();
+        Chain x = made();
         x.deliver(x.forge(0, 0, 1, 5, NIL, 31), 15);
         x.deliver(x.forge(0, 1, 1, 5, 3, -1), 15);
         Check.votes(x, prevote(5, NIL), 1, 2, 15);
@@ -221,8 +221,8 @@ public final class RulesTest {
     }
 
     private static void greatestRound() {
-        StakeChain x = made();
-        StakeChain y = made();
+        Chain x = made();
+        Chain y = made();
         for (int n = 0; n <= 4; n++) {
             x.deliver(x.forge(n, 1, 1, 30, NIL, -1), 15);
             x.deliver(x.forge(n, 1, 1, 31, NIL, -1), 15);
@@ -238,22 +238,22 @@ public final class RulesTest {
     }
 
     private static void ruleC() {
-        StakeChain x = made();
+        Chain x = made();
         Check.due("good", x.deliver(0, 15), 1);
         Check.isMessage("prevote", x, x.count(1) - 1, 1, 15, 1, 0, 1, -1);
         Check.stands("step 1", x, 15, 0, 1, -1, -1, -1, -1);
-        StakeChain y = made();
+        Chain y = made();
         Check.due("not sound", propose(y, 1, 0, 3, -1), 1);
         Check.isMessage("prevote for none", y, y.count(1) - 1, 1, 15, 1, 0, NIL, -1);
-        StakeChain z = made();
+        Chain z = made();
         int child = z.block(0, 1, -1, -1, -1);
         Check.due("not on last", propose(z, 1, 0, child, -1), 1);
         Check.isMessage("prevote for none", z, z.count(1) - 1, 1, 15, 1, 0, NIL, -1);
     }
 
     /** NODE 15 locked on BLOCK 1 in ROUND 0, then in ROUND 1, whose PROPOSER is NODE 4. */
-    private static StakeChain locked() {
-        StakeChain x = made();
+    private static Chain locked() {
+        Chain x = made();
         x.deliver(0, 15);
         Check.votes(x, prevote(0, 1), 0, 9, 15);
         Check.stands("locked", x, 15, 0, 2, 1, 0, 1, 0);
@@ -263,25 +263,25 @@ public final class RulesTest {
         return x;
     }
 
-    private static void lastVote(String what, StakeChain x, int round, int block) {
+    private static void lastVote(String what, Chain x, int round, int block) {
         Check.isMessage(what, x, x.count(1) - 1, 1, 15, 1, round, block, -1);
     }
 
     private static void ruleCAndLocks() {
-        StakeChain x = locked();
+        Chain x = locked();
         Check.due("another block", propose(x, 4, 1, 2, -1), 1);
         lastVote("for none", x, 1, NIL);
-        StakeChain y = locked();
+        Chain y = locked();
         Check.due("the same block", propose(y, 4, 1, 1, -1), 1);
         lastVote("for it", y, 1, 1);
     }
 
     private static void ruleD() {
-        StakeChain x = made();
+        Chain x = made();
         Check.due("a round before that is not before", propose(x, 1, 0, 1, 0), 0);
         Check.votes(x, prevote(0, 1), 0, 10, 15);
         Check.stands("nothing", x, 15, 0, 0);
-        StakeChain y = made();
+        Chain y = made();
         Check.votes(y, precommit(2, NIL), 0, 5, 15);
         Check.due("round 2: 745 of 1600", y.told(15, 10), 7);
         Check.due("no prevotes yet", propose(y, 7, 2, 2, 1), 0);
@@ -290,7 +290,7 @@ public final class RulesTest {
         Check.due("in another round", Check.votes(y, prevote(0, 2), 10, 10, 15), 0);
         Check.due("MOST", Check.votes(y, prevote(1, 2), 10, 10, 15), 1);
         lastVote("for it", y, 2, 2);
-        StakeChain z = made();
+        Chain z = made();
         Check.votes(z, precommit(2, NIL), 0, 5, 15);
         Check.votes(z, prevote(1, 3), 0, 10, 15);
         Check.due("not sound", propose(z, 7, 2, 3, 1), 1);
@@ -298,11 +298,11 @@ public final class RulesTest {
     }
 
     private static void ruleDAndLocks() {
-        StakeChain x = locked();
+        Chain x = locked();
         Check.votes(x, prevote(0, 2), 0, 10, 15);
         Check.due("lock of round 0, before 0", propose(x, 4, 1, 2, 0), 1);
         lastVote("for it", x, 1, 2);
-        StakeChain y = locked();
+        Chain y = locked();
         // Locked again, in round 1 this time.
         propose(y, 4, 1, 1, -1);
         Check.votes(y, prevote(1, 1), 0, 9, 15);
@@ -318,21 +318,21 @@ public final class RulesTest {
     }
 
     private static void ruleE() {
-        StakeChain x = made();
+        Chain x = made();
         Check.votes(x, prevote(0, 1), 0, 10, 15);
         Check.stands("no proposal", x, 15, 0, 0);
         Check.due("prevote and precommit at once", x.deliver(0, 15), 2);
         Check.isMessage("prevote", x, x.count(1) - 2, 1, 15, 1, 0, 1, -1);
         Check.isMessage("precommit", x, x.count(1) - 1, 2, 15, 1, 0, 1, -1);
         Check.stands("locked", x, 15, 0, 2, 1, 0, 1, 0);
-        StakeChain y = made();
+        Chain y = made();
         propose(y, 1, 0, 3, -1);
         Check.due("not good: own prevote is for none", Check.votes(y, prevote(0, 3), 0, 10, 15), 0);
         Check.stands("not locked", y, 15, 0, 1, -1, -1, -1, -1);
     }
 
     private static void candidateInStepTwo() {
-        StakeChain x = made();
+        Chain x = made();
         x.deliver(0, 15);
         Check.due("prevotes for none", Check.votes(x, prevote(0, NIL), 0, 10, 15), 1);
         Check.isMessage("precommit for none", x, x.count(1) - 1, 2, 15, 1, 0, NIL, -1);
@@ -342,7 +342,7 @@ public final class RulesTest {
     }
 
     private static void candidateIsProposed() {
-        StakeChain x = new StakeChain();
+        Chain x = new Chain();
         Check.faultAll(x, 0, 10);
         x.deliver(0, 13);
         Check.votes(x, prevote(0, 1), 0, 9, 13);
@@ -351,7 +351,7 @@ public final class RulesTest {
         Check.isMessage("of the candidate", x, x.count(1) - 2, 0, 13, 1, 4, 1, 0);
         Check.isMessage("and prevotes for it", x, x.count(1) - 1, 1, 13, 1, 4, 1, -1);
         Check.due("no new block", x.count(2), blocks);
-        StakeChain y = new StakeChain();
+        Chain y = new Chain();
         Check.faultAll(y, 0, 10);
         Check.due("without a candidate", Check.votes(y, precommit(4, NIL), 0, 5, 13), 2);
         Check.isMessage("a new block", y, y.count(1) - 2, 0, 13, 1, 4, 2, -1);
@@ -359,7 +359,7 @@ public final class RulesTest {
     }
 
     private static void ruleF() {
-        StakeChain x = made();
+        Chain x = made();
         Check.due("step 0", Check.votes(x, prevote(0, NIL), 0, 10, 15), 0);
         Check.stands("step 0", x, 15, 0, 0);
         Check.due("prevote, then precommit for none", x.expire(15), 2);
@@ -368,7 +368,7 @@ public final class RulesTest {
     }
 
     private static void otherHeights() {
-        StakeChain x = made();
+        Chain x = made();
         int child = x.block(0, 1, -1, -1, -1);
         Check.votes(x, Check.vote(2, 2, 0, child), 0, 10, 15);
         x.deliver(x.forge(2, 0, 2, 0, child, -1), 15);
@@ -380,7 +380,7 @@ public final class RulesTest {
     }
 
     private static void expiring() {
-        StakeChain x = made();
+        Chain x = made();
         Check.due("step 0", x.expire(15), 1);
         Check.isMessage("prevote for none", x, x.count(1) - 1, 1, 15, 1, 0, NIL, -1);
         Check.due("step 1, not MOST", x.expire(15), 0);
@@ -399,7 +399,7 @@ public final class RulesTest {
     }
 
     private static void expiringInStepTwo() {
-        StakeChain x = made();
+        Chain x = made();
         x.deliver(0, 15);
         Check.votes(x, prevote(0, NIL), 0, 10, 15);
         Check.votes(x, precommit(0, 1), 0, 4, 15);
@@ -424,7 +424,7 @@ public final class RulesTest {
 
     /** The PROPOSER is by the POWERS in the STATE of LAST. */
     private static void proposerOfPowers() {
-        StakeChain x = new StakeChain();
+        Chain x = new Chain();
         x.submit(1, 20, 0, 900);
         x.submit(2, 1, 1, 100);
         Check.runTo(x, 3, Check.ALL);
@@ -435,13 +435,13 @@ public final class RulesTest {
     }
 
     private static void proposerAtTheEdge() {
-        StakeChain x = made();
+        Chain x = made();
         Check.votes(x, precommit(22, NIL), 0, 5, 15);
         Check.due("131 and 22 times 307 mod 1600: 485", x.told(15, 10), 4);
-        StakeChain y = new StakeChain();
+        Chain y = new Chain();
         Check.runTo(y, 3, Check.ALL);
         Check.due("height 3, round 0: 393", y.of(3, 2), 3);
-        StakeChain z = made();
+        Chain z = made();
         int one = z.block(0, 0, -1, -1, -1);
         int two = z.block(0, one, -1, -1, -1);
         for (int n = 0; n <= 10; n++) {
@@ -456,7 +456,7 @@ public final class RulesTest {
 
     /** With T 1500, ten NODES have just 2 thirds and five just a third: that is not above. */
     private static void justThirds() {
-        StakeChain x = made();
+        Chain x = made();
         x.submit(2, 15, 15, 100);
         int one = x.block(0, 0, 0, -1, -1);
         int two = x.block(0, one, -1, -1, -1);
@@ -480,7 +480,7 @@ public final class RulesTest {
 
     /** Without POWERS there is no PROPOSER, and nobody has SOME or MOST. */
     private static void noPowers() {
-        StakeChain x = new StakeChain();
+        Chain x = new Chain();
         for (int n = 0; n < 16; n++) {
             x.submit(2, n, n, 100);
         }

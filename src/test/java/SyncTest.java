@@ -9,7 +9,7 @@ public final class SyncTest {
 
     /** NODE 15 hears nothing, and is led on. */
     private static void leading() {
-        StakeChain x = new StakeChain();
+        Chain x = new Chain();
         Check.runTo(x, 5, 0x7fff);
         Check.due("it lags", x.told(15, 0), 1);
         Check.due("not its next", x.sync(15, 2), 1);
@@ -34,7 +34,7 @@ public final class SyncTest {
     }
 
     private static void certificates() {
-        StakeChain x = new StakeChain();
+        Chain x = new Chain();
         Check.faultAll(x, 0, 11);
         int b = x.block(0, 0, -1, -1, -1);
         int bad = x.block(0, 0, -1, -1, 1);
@@ -70,7 +70,7 @@ public final class SyncTest {
 
     /** NODES 4 to 14 FAULTY: so the first and the last NODE are among those that are looked at. */
     private static void splits() {
-        StakeChain x = new StakeChain();
+        Chain x = new Chain();
         Check.faultAll(x, 4, 14);
         int one = x.block(4, 0, -1, -1, -1);
         int two = x.block(4, 0, -1, -1, -1);
