@@ -24,6 +24,8 @@ public final class LedgerEdgesTest {
         notValidDoesNothing();
         order();
         twelveInABlock();
+        noMoreBondsAreProposed();
+        notInTheChainOfLast();
         soundParents();
         soundClaims();
         standsTwice();
@@ -483,6 +485,43 @@ public final class LedgerEdgesTest {
         Check.due("one that is not yet valid takes no room", x.of(2, 16), 12);
         Check.due("it stands first when it is", x.of(3, 5), 0);
         Check.due("then the last one", x.of(3, 6), 13);
+    }
+
+    private static void noMoreBondsAreProposed() {
+        Check.sentence("the first ones that are VALID in order (96 BONDS are there)");
+        Chain x = new Chain();
+        for (int i = 0; i < 82; i++) {
+            x.submit(1, 20 + i, i % 16, 1);
+        }
+        x.submit(0, 150, 151, 1);
+        Check.runTo(x, 9, Check.ALL);
+        Check.due("12 at each of the heights 2 to 7", x.sum(7, 19), 16 + 72);
+        Check.due("96 at height 8", x.sum(8, 19), 96);
+        Check.due("eight, and the payment behind them", x.of(8, 4), 9);
+        Check.due("the 80th", x.of(8, 12), 79);
+        Check.due("the payment", x.of(8, 13), 82);
+        Check.due("no more", x.of(9, 4), 0);
+    }
+
+    /** NODE 2, the PROPOSER of HEIGHT 2, is led there by BLOCK 1, which is empty, or by BLOCK 2. */
+    private static void notInTheChainOfLast() {
+        Check.sentence("that are VALID in order and not in the CHAIN of LAST");
+        for (int last = 1; last <= 2; last++) {
+            Chain x = new Chain();
+            Check.faultAll(x, 5, 15);
+            int t = x.submit(0, 20, 21, 1);
+            int u = x.submit(0, 22, 21, 1);
+            Check.due("a block with one of them", x.block(5, 0, t, -1, -1), 2);
+            for (int n = 5; n <= 15; n++) {
+                x.forge(n, 2, 1, 0, last, -1);
+            }
+            Check.due("height 2", x.sync(2, last), 2);
+            Check.due("it proposes", x.of(3, 2), 2);
+            Check.due("what is not in its chain", x.of(3, 4), last == 1 ? 2 : 1);
+            Check.due("the first", x.of(3, 5), last == 1 ? t : u);
+            Check.due("the second", x.of(3, 6), last == 1 ? u : -1);
+            Check.due("both are paid", x.account(3, 21, 0), 1002);
+        }
     }
 
     private static void soundParents() {
