@@ -214,13 +214,14 @@ public final class StakeChain {
             throw new IllegalStateException("it is not down");
         }
         int whole = x.log.size;
+        Entry end = x.log.end();
         x.down = false;
         x.log.torn = 0;
-        if (whole == 0) {
+        if (end == null) {
             x.unlock();
             x.enter(0);
         } else {
-            resume(x);
+            resume(x, end);
         }
         doAll(x);
         return whole;
@@ -242,7 +243,7 @@ public final class StakeChain {
             case 7: return x.down ? NONE : x.candidateRound;
             case 8: return x.known;
             case 9: return x.faulty ? 1 : x.down ? 2 : 0;
-            case 10: return x.down ? NONE : x.last.state.proposerOf(x.height(), x.round);
+            case 10: return x.down ? NONE : x.proposerOf(x.round);
             case 11: return x.log.size * RECORD_BYTES + x.log.torn;
             default: throw new IllegalArgumentException("no such question");
         }
@@ -352,7 +353,7 @@ public final class StakeChain {
 
     /** Lets m come to x; answers whether x may have something to do by that. */
     private boolean comesAnew(Message m, Node x) {
-        if (x.down || x.hasHeard(m)) {
+        if (m == null || x.down || x.hasHeard(m)) {
             return false;
         }
         x.learn(m, post.firstOf(m.height, m.round));
@@ -374,11 +375,11 @@ public final class StakeChain {
             return false;
         }
         x.justEntered = false;
-        if (!post.isFull() && x.last.state.proposerOf(x.height(), x.round) == x.number) {
-            if (x.candidate != NONE) {
-                send(x, PROPOSAL, x.candidate, x.candidateRound);
-            } else if (!ledger.isFull()) {
-                send(x, PROPOSAL, ledger.addBest(x.last, x.number), NONE);
+        if (!post.isFull() && x.proposerOf(x.round) == x.number) {
+            int block = x.candidate != NONE ? x.candidate : ledger.addBest(x.last, x.number);
+            if (block != NONE) {
+                // Without a CANDIDATE its ROUND is -1, as is due with a new BLOCK.
+                send(x, PROPOSAL, block, x.candidateRound);
             }
         }
         return true;
@@ -391,7 +392,7 @@ public final class StakeChain {
             Message proposal = (rounds >>> q & 1) == 1 ? proposalOf(x, q) : null;
             if (proposal != null) {
                 Block b = ledger.get(proposal.block);
-                if (x.isGood(b) && x.last.state.isMost(heardFrom(x, PRECOMMIT, q, proposal.block))) {
+                if (x.isGood(b) && x.isMost(heardFrom(x, PRECOMMIT, q, proposal.block))) {
                     x.adopt(b);
                     return true;
                 }
@@ -404,7 +405,7 @@ public final class StakeChain {
     private boolean passOn(Node x) {
         int rounds = post.roundsOf(x.height());
         for (int q = ROUNDS - 1; q > x.round; q--) {
-            if ((rounds >>> q & 1) == 1 && x.last.state.isSome(heardFrom(x, ANY, q, ANY))) {
+            if ((rounds >>> q & 1) == 1 && x.isSome(heardFrom(x, ANY, q, ANY))) {
                 x.enter(q);
                 return true;
             }
@@ -421,7 +422,7 @@ public final class StakeChain {
         boolean free = x.lock == NONE || x.lock == proposal.block;
         int before = proposal.before;
         if (before != NONE) {
-            if (before >= x.round || !x.last.state.isMost(heardFrom(x, PREVOTE, before, proposal.block))) {
+            if (before >= x.round || !x.isMost(heardFrom(x, PREVOTE, before, proposal.block))) {
                 return false;
             }
             free = free || x.lockRound <= before;
@@ -435,7 +436,7 @@ public final class StakeChain {
     private boolean renewCandidate(Node x) {
         Message proposal = x.step == PROPOSES || x.renewed ? null : proposalOf(x, x.round);
         if (proposal == null || !x.isGood(ledger.get(proposal.block))
-                || !x.last.state.isMost(heardFrom(x, PREVOTE, x.round, proposal.block))) {
+                || !x.isMost(heardFrom(x, PREVOTE, x.round, proposal.block))) {
             return false;
         }
         x.renewed = true;
@@ -453,7 +454,7 @@ public final class StakeChain {
 
     /** Rule (f). */
     private boolean precommitForNone(Node x) {
-        if (x.step != PREVOTED || !x.last.state.isMost(heardFrom(x, PREVOTE, x.round, NONE))) {
+        if (x.step != PREVOTED || !x.isMost(heardFrom(x, PREVOTE, x.round, NONE))) {
             return false;
         }
         x.step = PRECOMMITTED;
@@ -466,11 +467,11 @@ public final class StakeChain {
             x.step = PREVOTED;
             send(x, PREVOTE, NONE, NONE);
         } else if (x.step == PREVOTED) {
-            if (x.last.state.isMost(heardFrom(x, PREVOTE, x.round, ANY))) {
+            if (x.isMost(heardFrom(x, PREVOTE, x.round, ANY))) {
                 x.step = PRECOMMITTED;
                 send(x, PRECOMMIT, NONE, NONE);
             }
-        } else if (x.round + 1 < ROUNDS && x.last.state.isMost(heardFrom(x, PRECOMMIT, x.round, ANY))) {
+        } else if (x.round + 1 < ROUNDS && x.isMost(heardFrom(x, PRECOMMIT, x.round, ANY))) {
             x.enter(x.round + 1);
         }
     }
@@ -499,14 +500,13 @@ public final class StakeChain {
     }
 
     /** Takes up the work where the last RECORD left it. */
-    private void resume(Node x) {
+    private void resume(Node x, Entry end) {
         for (int i = 0; i < x.log.size; i++) {
-            Message m = x.log.entries[i].sent;
+            Message m = x.log.sentAt(i);
             if (m != null) {
                 x.learn(m, post.firstOf(m.height, m.round));
             }
         }
-        Entry end = x.log.entries[x.log.size - 1];
         x.restore(end);
         if (end.sent == null) {
             sendRecorded(x, end);
@@ -517,7 +517,7 @@ public final class StakeChain {
 
     /** The PROPOSAL of a ROUND, or null. */
     private Message proposalOf(Node x, int round) {
-        int proposer = x.last.state.proposerOf(x.height(), round);
+        int proposer = x.proposerOf(round);
         for (Message m = post.firstOf(x.height(), round); m != null; m = m.next) {
             if (m.node == proposer && x.heardAsFirst(m)) {
                 return m;
@@ -539,7 +539,7 @@ public final class StakeChain {
 
     private boolean isCertified(Block b, Node x) {
         for (int q = 0; q < ROUNDS; q++) {
-            if (x.last.state.isMost(post.precommittersOf(b, q))) {
+            if (x.isMost(post.precommittersOf(b, q))) {
                 return true;
             }
         }
@@ -602,7 +602,7 @@ public final class StakeChain {
         int pairs = 0;
         for (int i = 0; i < post.size; i++) {
             Message m = post.get(i);
-            if (!nodes[m.node].faulty) {
+            if (m != null && !isFaulty(m.node)) {
                 for (Message o = m.next; o != null; o = o.next) {
                     if (o.node == m.node && o.kind == m.kind && o.block != m.block) {
                         pairs++;
@@ -1063,8 +1063,11 @@ public final class StakeChain {
             return addTransaction(new Transaction(PROVE, account, NONE, 0, culprit, one.height));
         }
 
-        /** The number of the BLOCK that a NODE proposes behind a SOUND one; there must be room. */
+        /** The number of the BLOCK that a NODE proposes behind a SOUND one, or none if there is no room. */
         int addBest(Block parent, int proposer) {
+            if (isFull() || parent.state == null) {
+                return NONE;
+            }
             openTrial(parent);
             int many = 0;
             for (int t = 0; t < transactionCount && many < MAX_IN_BLOCK; t++) {
@@ -1166,6 +1169,18 @@ public final class StakeChain {
 
         boolean acts() {
             return !faulty && !down && last.height < LAST_HEIGHT;
+        }
+
+        boolean isMost(int bits) {
+            return last.state != null && last.state.isMost(bits);
+        }
+
+        boolean isSome(int bits) {
+            return last.state != null && last.state.isSome(bits);
+        }
+
+        int proposerOf(int ofRound) {
+            return last.state == null ? NONE : last.state.proposerOf(height(), ofRound);
         }
 
         boolean isGood(Block b) {
@@ -1272,6 +1287,17 @@ public final class StakeChain {
         void clear() {
             size = 0;
             torn = 0;
+        }
+
+        /** The last whole RECORD, or null. */
+        Entry end() {
+            return size < 1 || size > MAX_RECORDS ? null : entries[size - 1];
+        }
+
+        /** The MESSAGE of a whole RECORD, or null if it was not sent. */
+        Message sentAt(int i) {
+            Entry entry = i < 0 || i >= size || i >= MAX_RECORDS ? null : entries[i];
+            return entry == null ? null : entry.sent;
         }
 
         void write(Entry entry, int bytes) {
