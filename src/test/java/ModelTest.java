@@ -16,7 +16,11 @@ public final class ModelTest {
         {5, 0, 10, 12, 10, 0, 0, 3, 12, 12, 6, 2, 1, 1, 1, 2, 2},
         {10, 1, 8, 12, 14, 12, 4, 3, 6, 6, 6, 2, 1, 1, 1, 2, 2},
         {6, 6, 3, 8, 2, 40, 14, 6, 0, 0, 4, 1, 2, 1, 2, 12, 2},
+        {6, 0, 4, 6, 6, 10, 30, 40, 3, 3, 8, 1, 2, 1, 2, 10, 12},
     };
+    /** In this kind of run so many NODES are FAULTY from the first that they certify what they like, and NODES split. */
+    private static final int SPLIT = 5;
+    private static final int CERTIFIERS = 13;
 
     private static final int PROMISED = 512;
     /** Calls of all sorts; the last ones only ask. */
@@ -117,14 +121,21 @@ public final class ModelTest {
 
     /** Many FAULTY NODES vote for one BLOCK: that brings certificates and locks. */
     private void forgeMany() {
-        int b = late(plain.blocks.size());
+        int b = random.nextBoolean() ? late(plain.blocks.size()) : blockBehind(pick(0, 15));
         int height = b >= 0 && b < plain.blocks.size() ? plain.blocks.get(b).height() : 1;
         int round = random.nextInt(3);
-        int kind = 1 + random.nextInt(2);
+        int kind = random.nextInt(3) == 0 ? 1 : 2;
+        int others = weights == WEIGHTS[SPLIT] ? 40 : 10;
         for (int n = 0; n < 16; n++) {
-            if (plain.nodes[n].faulty && random.nextInt(8) > 0) {
-                both("forge", n, kind, height, round, random.nextInt(12) == 0 ? -1 : b, -1);
+            if (plain.nodes[n].faulty && random.nextInt(others) > 0) {
+                both("forge", n, kind, height, round, random.nextInt(others) == 0 ? -1 : b, -1);
             }
+        }
+    }
+
+    private void faultTheFirst(int many) {
+        for (int n = 0; n < many; n++) {
+            both("fault", n);
         }
     }
 
@@ -143,10 +154,10 @@ public final class ModelTest {
             case "deliver": both("deliver", late(m), pick(0, 15)); break;
             case "spread": both("spread", random.nextInt(3) == 0 ? pick(0, m) : Math.max(0, m - 60), pick(1, 100), nodeBits()); break;
             case "expire": for (int i = random.nextInt(8); i >= 0; i--) both("expire", pick(0, 15)); break;
-            case "forge": if (random.nextInt(4) == 0) forgeMany(); else forgeSomething(); break;
+            case "forge": if (random.nextInt(weights == WEIGHTS[SPLIT] ? 2 : 4) == 0) forgeMany(); else forgeSomething(); break;
             case "block": both("block", pick(0, 15), late(b), pick(-1, plain.txs.size() - 1), pick(-1, plain.txs.size() - 1),
                 random.nextInt(3) == 0 ? pick(-1, 65535) : -1); break;
-            case "sync": both("sync", pick(0, 15), late(b)); break;
+            case "sync": syncSomething(); break;
             case "power": both("power", pick(0, 15), random.nextInt(3) == 0 ? 12 : pick(0, 13)); break;
             case "start": startSomething(); break;
             case "told": both("told", pick(0, 15), pick(0, 11)); break;
@@ -157,6 +168,22 @@ public final class ModelTest {
             case "follow": both("follow", late(b)); break;
             default: both("count", pick(0, 8)); break;
         }
+    }
+
+    /** A BLOCK that stands behind the LAST of a NODE, if there is one; else any. */
+    private int blockBehind(int n) {
+        int b = late(plain.blocks.size());
+        for (int i = 0; i < plain.blocks.size() && n >= 0 && n < 16; i++) {
+            if (plain.blocks.get(i).parent() == plain.nodes[n].last && random.nextBoolean()) {
+                b = i;
+            }
+        }
+        return b;
+    }
+
+    private void syncSomething() {
+        int n = random.nextInt(3) > 0 ? CERTIFIERS + random.nextInt(16 - CERTIFIERS) : pick(0, 15);
+        both("sync", n, random.nextInt(3) > 0 ? blockBehind(n) : late(plain.blocks.size()));
     }
 
     private void startSomething() {
@@ -192,6 +219,7 @@ public final class ModelTest {
         int[] sums = new int[9];
         for (int seed = first; seed < first + runs && wrongRuns == 0; seed++) {
             ModelTest t = new ModelTest(seed);
+            t.faultTheFirst(seed % WEIGHTS.length == SPLIT ? CERTIFIERS : 0);
             while (t.run.size() < DEEDS && !t.wrong) {
                 t.oneCall();
             }
